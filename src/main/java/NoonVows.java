@@ -834,19 +834,17 @@ public final class NoonVows {
         }
 
         private int vowsGivenBy(int one) {
-            int many = 0;
-            for (int v = 0; v < vowCount; v++) {
-                if (ones[v] == one) {
-                    many++;
-                }
-            }
-            return many;
+            return timesIn(ones, one);
         }
 
         private int vowsGivenTo(int one) {
+            return timesIn(others, one);
+        }
+
+        private int timesIn(int[] row, int one) {
             int many = 0;
             for (int v = 0; v < vowCount; v++) {
-                if (others[v] == one) {
+                if (row[v] == one) {
                     many++;
                 }
             }
@@ -902,17 +900,17 @@ public final class NoonVows {
         }
 
         private int givers() {
-            int bits = 0;
-            for (int v = 0; v < vowCount; v++) {
-                bits |= 1 << ones[v];
-            }
-            return bits;
+            return bitsOf(ones);
         }
 
         private int takers() {
+            return bitsOf(others);
+        }
+
+        private int bitsOf(int[] row) {
             int bits = 0;
             for (int v = 0; v < vowCount; v++) {
-                bits |= 1 << others[v];
+                bits |= 1 << row[v];
             }
             return bits;
         }

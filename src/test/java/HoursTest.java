@@ -40,6 +40,7 @@ public final class HoursTest {
         Due.is("13: VOWS of a STRUCK one at its noon", x.hours(1), 1);
         Due.is("13: they draw too", x.count(7), draw(draw(1)));
         Due.is("13: LAPSED", x.land(2), 1);
+        Due.is("13: LAPSED in them alone", x.hours(5), 0);
     }
 
     /** Two of one giver at one noon: the second is judged with the VOWS that are there by then. */
@@ -149,6 +150,8 @@ public final class HoursTest {
         Due.is("14: KEPT", x.land(1), 0);
         Due.is("14: what", x.land(6), NoonVows.BAD);
         Due.is("14: what", x.land(-1), NoonVows.BAD);
+        NoonVows first = ring(1);
+        Due.is("14: CHAIN from 0", first.land(5), 1);
         NoonVows y = ring(0);
         y.vow(0, 1, 0);
         y.vow(1, 0, 0);
@@ -235,30 +238,31 @@ public final class HoursTest {
         freeAtTheEdge();
     }
 
-    /** A seed with which it is kept 12 times (hours 12 .. 276) and goes at the 13th noon, 300; a noon later is too late. */
+    /** A seed with which a VOW is kept at 12 noons and goes at the 13th, which is HOUR 300, or 301. */
     private static void freeAtTheEdge() {
-        boolean seen300 = false;
-        for (int seed = 0; seed < 100000 && !seen300; seed++) {
-            int z = seed;
-            int kept = 0;
-            while (kept < 14) {
-                z = draw(z);
-                if ((z >>> 8) % 100 >= 80) {
-                    break;
-                }
-                kept++;
-            }
-            if (kept == 12 || kept == 13) {
-                NoonVows x = new NoonVows();
-                x.person(0, 0, 85);
-                x.person(0, 0, 0);
-                x.vow(0, 1, 0);
-                x.seed(seed);
-                Due.is("17: at the edge", x.free(), kept == 12 ? 300 : NoonVows.NONE);
-                seen300 = kept == 12;
-            }
+        int seed = 0;
+        while (seed < 100000 && noonsKept(seed) != 12) {
+            seed++;
         }
-        Due.holds("17: 300 was seen", seen300);
+        Due.is("17: a seed was found", noonsKept(seed), 12);
+        for (int east = 0; east < 2; east++) {
+            NoonVows x = new NoonVows();
+            x.person(0, east, 85);
+            x.person(0, 0, 0);
+            x.vow(0, 1, 0);
+            x.seed(seed);
+            Due.is("17: at the edge", x.free(), east == 0 ? 300 : NoonVows.NONE);
+        }
+    }
+
+    private static int noonsKept(int seed) {
+        int z = draw(seed);
+        int kept = 0;
+        while (kept < 100 && (z >>> 8) % 100 < 80) {
+            z = draw(z);
+            kept++;
+        }
+        return kept;
     }
 
     private static void sworn() {
@@ -271,12 +275,15 @@ public final class HoursTest {
         Due.is("18: what", x.sworn(1, 2), NoonVows.BAD);
         Due.is("18: what", x.sworn(1, -1), NoonVows.BAD);
         x.person(0, 13, 0);
+        Due.is("18: there are two", x.sworn(1, 0), 1);
         x.person(0, 14, 0);
         Due.is("18: only of 2 it lasts an hour", x.sworn(1, 0), 20);
         Due.is("18: VOWS then", x.sworn(1, 1), 1);
         Due.is("18: all go, so the least pair", x.sworn(2, 0), 1);
         Due.is("18: VOWS then", x.sworn(2, 1), 0);
         Due.is("18: nothing changes", x.count(1), 0);
+        Tapes.text(x, "keep 100*(w=0)");
+        Due.is("18: it is a marriage", x.sworn(40, 1), 1);
         NoonVows y = new NoonVows();
         for (int k = 0; k < 10; k++) {
             y.person(0, 0, 99);
@@ -308,6 +315,10 @@ public final class HoursTest {
         Due.is("19: whose VOW it is", x.trust(1, 0), 1);
         Due.is("19: VOWS then", x.trust(1, 1), 1);
         Due.is("19: FAITH stays", x.told(1, 2), 0);
+        x.vow(2, 0, 0);
+        x.set(2, 2, 99);
+        Due.is("19: the one", x.trust(1, 0), 1);
+        Due.is("19: both VOWS then", x.trust(1, 1), 2);
     }
 
     private static void debtor() {
@@ -366,6 +377,14 @@ public final class HoursTest {
         Due.is("21: signs left out, gone behind 3", x.clock(0, 0, 0), 15);
         Due.is("21: 0 and -2", x.clock(0, 0, 1), 2);
         Due.is("21: another one gives none", x.clock(0, 1, 1), 5);
+        x.sheet(3, 0, 15);
+        for (int east = 0; east < 3; east++) {
+            for (int k = 0; k < 15; k++) {
+                x.mark(3, k, k < 12 + east ? 1 : 0);
+            }
+            Due.is("21: EAST", x.clock(3, 0, 0), east);
+            Due.is("21: EAST", x.clock(3, 0, 1), 0);
+        }
         Due.is("21: nothing changes", x.told(0, 1), 20);
         Due.is("21: nothing changes", x.count(1), 1);
     }
@@ -376,8 +395,8 @@ public final class HoursTest {
         Due.holds("22: both are there", x.land(1) > 0 && x.land(2) > 0);
         Due.is("22: without a TEXT", x.fee(), x.land(2));
         Due.is("23: without a TEXT", x.fine(0), x.told(0, 3));
-        Tapes.text(x, "fee 100*k+l");
         Tapes.text(x, "fine 100*p-e");
+        Tapes.text(x, "fee 100*k+l");
         Due.is("22: with one", x.fee(), 100 * x.land(1) + x.land(2));
         for (int k = 0; k < 4; k++) {
             Due.is("23: with one", x.fine(k), 100 * x.told(k, 3) - x.told(k, 1));

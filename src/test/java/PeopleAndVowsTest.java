@@ -282,7 +282,8 @@ public final class PeopleAndVowsTest {
             Due.is("11: PURSE", x.told(one, 3), 0);
         }
         Due.is("11: z", x.count(7), z);
-        x.deal(7);
+        Due.is("11: came", x.deal(1), 1);
+        x.deal(6);
         Due.is("11: room for one", x.deal(5), 1);
         int behind = x.count(7);
         Due.is("11: room for none", x.deal(10), 0);

@@ -137,7 +137,9 @@ public final class RowsAndImagesTest {
         int kept = x.land(1);
         int lapsed = x.land(2);
         for (int again = 0; again < 3; again++) {
-            x.person(5, 1, 1);
+            x.person(0, 1, 1);
+            x.set(3, 3, 77);
+            x.vow(3, 1, 1);
             Tapes.text(x, "fee 8");
             Tapes.text(x, "keep 9");
             x.turns(1, 3);
@@ -169,6 +171,7 @@ public final class RowsAndImagesTest {
         x.back();
         x.person(4, 4, 4);
         Due.is("2: one that comes behind back is new", x.told(3, 3), 0);
+        Due.holds("2: one that comes behind back gave none", x.vow(3, 0, 0) >= 0);
         Due.is("40: another IMAGE", x.keep(), 4);
         x.turns(0, 2);
         Due.is("41: it is that one", x.back(), 4);

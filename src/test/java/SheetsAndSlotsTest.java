@@ -43,6 +43,15 @@ public final class SheetsAndSlotsTest {
         Due.is("29: it is there still", at(x, 0, 23), 5);
         x.sheet(0, 0, 24);
         Due.is("29: all 0", at(x, 0, 23), 0);
+        x.mark(0, 0, 5);
+        x.sheet(0, 0, 1);
+        Due.is("29: all 0", at(x, 0, 0), 0);
+        Due.is("29: the last SHEET", x.sheet(3, 0, 1), 1);
+        Due.is("30: the last SHEET", x.mark(3, 0, 6), 1);
+        Due.is("34: the last SHEET", x.lay(0, 2, 3), 0);
+        Due.is("36: the last SHEET", x.item(0, 0), 6);
+        Due.is("32: the last SHEET", x.reads(3), 0);
+        Due.is("31: the last SHEET", x.pour(3), 0);
         Due.is("29: MISSING, n any", x.sheet(0, -1, -9), 0);
         Due.is("29: is MISSING", x.pour(0), NoonVows.NOTHING);
         Due.is("29: MISSING, n any", x.sheet(0, -1, 99), 0);
@@ -112,6 +121,9 @@ public final class SheetsAndSlotsTest {
         Due.is("32: all are", x.reads(0), NoonVows.NONE);
         x.mark(0, 2, 13);
         Due.is("32: the third is not", x.reads(0), 2);
+        x.mark(0, 0, 0);
+        Due.is("32: the first is not", x.reads(0), 0);
+        x.mark(0, 0, 12);
         x.mark(0, 1, 13);
         Due.is("32: the first of two", x.reads(0), 1);
         x.mark(0, 1, NoonVows.NONE);
@@ -256,5 +268,7 @@ public final class SheetsAndSlotsTest {
         Due.is("37: slot", x.rest(-1, 1), NoonVows.BAD);
         x.lay(0, 3, Integer.MIN_VALUE);
         Due.is("37: the least by -1", x.rest(0, -1), 0);
+        x.lay(4, 3, 17);
+        Due.is("37: the last SLOT", x.rest(4, 10), 7);
     }
 }

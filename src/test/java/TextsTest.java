@@ -91,6 +91,8 @@ public final class TextsTest {
         fault("fine k", 5);
         fault("fine p+l", 7);
         fault("keep ff", 5);
+        fault("keep fa", 5);
+        fault("keep fz", 5);
         fault("keep 12345", 5);
         fault("keep 00001", 5);
         fault("keep 0001", -1);
@@ -160,6 +162,7 @@ public final class TextsTest {
         gives("2<3", 1);
         gives("3<3", 0);
         gives("3=3", 1);
+        gives("3=4", 0);
         gives("3>2", 1);
         gives("3>3", 0);
         gives("1+1=2", 1);
@@ -190,6 +193,9 @@ public final class TextsTest {
         for (int vow = 0; vow < 5; vow++) {
             Due.is("8: KEEPS by a TEXT", x.vowOf(vow, 3), keeps[vow]);
         }
+        Tapes.text(x, "keep 0+30*!w");
+        Due.is("8: 0 is a NUMBER", x.vowOf(0, 3), 30);
+        Due.is("8: 0 is a NUMBER", x.vowOf(1, 3), 10);
         Tapes.text(x, "keep 9999");
         int[] most = {100, 100, 80, 50, 100};
         for (int vow = 0; vow < 5; vow++) {
@@ -223,6 +229,7 @@ public final class TextsTest {
         NoonVows x = new NoonVows();
         Due.is("28: none", x.why(1), NoonVows.NONE);
         Tapes.text(x, "fee 5");
+        Due.is("28: the only one", x.why(1), 0);
         Tapes.text(x, "fee 6");
         Tapes.text(x, "fine 7");
         Tapes.text(x, "fee k k");
@@ -230,6 +237,10 @@ public final class TextsTest {
         Due.is("28: the last", x.why(2), 2);
         Due.is("28: none", x.why(0), NoonVows.NONE);
         Due.is("22: of the last", x.fee(), 6);
+        Tapes.text(x, "fee 7+8*9?");
+        Tapes.text(x, "fee 3-1");
+        Due.is("26: nothing is left of what had a FAULT", x.fee(), 2);
+        Due.is("26: nothing is left of what had a FAULT", x.textTold(3, 1), 2);
         Due.is("28: key", x.why(3), NoonVows.BAD);
         Due.is("28: key", x.why(-1), NoonVows.BAD);
     }
