@@ -152,6 +152,9 @@ public final class HoursTest {
         Due.is("14: what", x.land(-1), NoonVows.BAD);
         NoonVows first = ring(1);
         Due.is("14: CHAIN from 0", first.land(5), 1);
+        first.eclipse();
+        Due.is("14: CHAIN of none", first.land(5), 0);
+        Due.is("15: by none", first.reaches(0, 1), NoonVows.NONE);
         NoonVows y = ring(0);
         y.vow(0, 1, 0);
         y.vow(1, 0, 0);
@@ -297,6 +300,8 @@ public final class HoursTest {
         Due.is("18: though there are 16", y.sworn(1, 1), 17);
         Due.is("18: of several the least", y.sworn(1, 0), 1);
         Due.is("18: gives for it are not struck off", y.count(3), 0);
+        Tapes.text(y, "keep 0");
+        Due.is("18: all 17 go", y.sworn(40, 1), 0);
     }
 
     private static void trust() {

@@ -241,6 +241,9 @@ public final class TextsTest {
         Tapes.text(x, "fee 3-1");
         Due.is("26: nothing is left of what had a FAULT", x.fee(), 2);
         Due.is("26: nothing is left of what had a FAULT", x.textTold(3, 1), 2);
+        Tapes.text(x, "fee !!7?");
+        Tapes.text(x, "fee 3");
+        Due.is("26: nothing is left of what had a FAULT", x.fee(), 3);
         Due.is("28: key", x.why(3), NoonVows.BAD);
         Due.is("28: key", x.why(-1), NoonVows.BAD);
     }
