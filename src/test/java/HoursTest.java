@@ -190,8 +190,8 @@ public final class HoursTest {
     }
 
     private static void behind() {
-        NoonVows x = debts();
         for (int n = 0; n <= 100; n++) {
+            NoonVows x = debts();
             NoonVows y = debts();
             if (n > 0) {
                 y.hours(n);
@@ -203,6 +203,8 @@ public final class HoursTest {
                 Due.is("16: PURSE BEHIND " + n, x.behind(n, 3 + k), y.told(k, 3));
             }
         }
+        NoonVows x = debts();
+        x.behind(100, 0);
         Due.is("16: nothing changes", x.count(2), 0);
         Due.is("16: nothing changes", x.count(7), 1);
         Due.is("16: nothing changes", x.land(2), 0);

@@ -7,6 +7,9 @@ public final class RandomRunsTest {
     private static final int[] EXTREMES = {Integer.MIN_VALUE, Integer.MAX_VALUE, -1, 0, NoonVows.NONE, 1 << 20, -99999, 99999};
     private static final String[] PIECES = {"f", "n", "w", "k", "l", "p", "e", "0", "1", "7", "42", "9999", "12345", "ff",
         "(", "(", ")", "!", "|", "&", "<", "=", ">", "+", "-", "*", "/", " ", "  ", "?", "F", "\u00e9", "keep", "\0"};
+    /** No object is asked more than 512 times: an act takes 64 calls at most. */
+    private static final int LAST_ACT = 512 - 70;
+    private int asked = 0;
     private final Random lot;
     private final NoonVows x = new NoonVows();
     private final Model m = new Model();
@@ -36,6 +39,7 @@ public final class RandomRunsTest {
         Method model = Model.class.getDeclaredMethod(name, types);
         int want = (Integer) model.invoke(m, boxed);
         int got = (Integer) mine.invoke(x, boxed);
+        asked++;
         story.append(name).append(Arrays.toString(args)).append(" -> ").append(got).append('\n');
         Due.is(name + Arrays.toString(args), got, want);
         if (got != want) {
@@ -145,6 +149,7 @@ public final class RandomRunsTest {
             t.setLength(96);
         }
         Tapes.put(x, t.toString());
+        asked += 2 + (t.length() + 11) / 12;
         m.tape = new StringBuilder(t);
         story.append('"').append(t).append("\"\n");
         call("count", 6);
@@ -159,7 +164,7 @@ public final class RandomRunsTest {
         for (int k = 0; late && k < 99 + lot.nextInt(3); k++) {
             call("hours", 100);
         }
-        for (int k = 0; k < calls; k++) {
+        for (int k = 0; k < calls && asked < LAST_ACT; k++) {
             act();
         }
     }

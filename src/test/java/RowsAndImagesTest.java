@@ -39,14 +39,7 @@ public final class RowsAndImagesTest {
 
     /** THE HOURS TOLD, from another object that went the same way. */
     private static int[] hoursTold(int n) {
-        NoonVows y = pair();
-        int[] rows = new int[2 * n];
-        for (int k = 0; k < n; k++) {
-            y.hours(1);
-            rows[2 * k] = y.land(0);
-            rows[2 * k + 1] = y.land(2);
-        }
-        return rows;
+        return Stories.hoursTold(pair(), n);
     }
 
     private static void tellFirst(NoonVows x, int[] rows, int many) {
@@ -71,6 +64,8 @@ public final class RowsAndImagesTest {
         Due.is("39: none wait then", x.count(5), 0);
         Due.is("39: all are missing", x.check(1), 1);
         for (int n = 1; n <= 30; n++) {
+            x = pair();
+            x.keep();
             tellFirst(x, rows, 2 * n);
             Due.is("39: right", x.check(n), 0);
             Due.is("39: none wait then", x.count(5), 0);

@@ -15,19 +15,6 @@ public final class SheetsAndSlotsTest {
         Due.end();
     }
 
-    /** What a SHEET has at a place, by way of SLOT 4. */
-    private static int at(NoonVows x, int sheet, int place) {
-        x.lay(4, 2, sheet);
-        return x.item(4, place);
-    }
-
-    private static void row(NoonVows x, int sheet, int sort, int... places) {
-        x.sheet(sheet, sort, places.length);
-        for (int k = 0; k < places.length; k++) {
-            x.mark(sheet, k, places[k]);
-        }
-    }
-
     private static void sheet() {
         NoonVows x = new NoonVows();
         Due.is("29: n", x.sheet(0, 0, 24), 24);
@@ -40,12 +27,12 @@ public final class SheetsAndSlotsTest {
         Due.is("29: SIZE", x.sheet(0, 1, -1), NoonVows.SIZE);
         Due.is("29: BAD is ahead of SIZE", x.sheet(0, 2, -1), NoonVows.BAD);
         x.mark(0, 23, 5);
-        Due.is("29: it is there still", at(x, 0, 23), 5);
+        Due.is("29: it is there still", Stories.at(x, 0, 23), 5);
         x.sheet(0, 0, 24);
-        Due.is("29: all 0", at(x, 0, 23), 0);
+        Due.is("29: all 0", Stories.at(x, 0, 23), 0);
         x.mark(0, 0, 5);
         x.sheet(0, 0, 1);
-        Due.is("29: all 0", at(x, 0, 0), 0);
+        Due.is("29: all 0", Stories.at(x, 0, 0), 0);
         Due.is("29: the last SHEET", x.sheet(3, 0, 1), 1);
         Due.is("30: the last SHEET", x.mark(3, 0, 6), 1);
         Due.is("34: the last SHEET", x.lay(0, 2, 3), 0);
@@ -67,9 +54,9 @@ public final class SheetsAndSlotsTest {
         Due.is("30: INDEX is ahead of KIND", x.mark(0, -1, NoonVows.NONE), NoonVows.INDEX);
         Due.is("30: KIND", x.mark(0, 0, NoonVows.NONE), NoonVows.KIND);
         Due.is("30: shorts", x.mark(0, 0, 0x12348765), 1);
-        Due.is("30: the lowest 16 bits", at(x, 0, 0), (short) 0x8765);
+        Due.is("30: the lowest 16 bits", Stories.at(x, 0, 0), (short) 0x8765);
         Due.is("30: shorts", x.mark(0, 1, -32769), 1);
-        Due.is("30: the lowest 16 bits", at(x, 0, 1), 32767);
+        Due.is("30: the lowest 16 bits", Stories.at(x, 0, 1), 32767);
     }
 
     private static void markFloats() {
@@ -80,10 +67,10 @@ public final class SheetsAndSlotsTest {
         Due.is("30: too much", x.mark(0, 0, 100000), NoonVows.BAD);
         Due.is("30: too little", x.mark(0, 1, -100000), NoonVows.BAD);
         Due.is("30: INDEX is ahead", x.mark(0, 2, 100000), NoonVows.INDEX);
-        Due.is("30: it stays", at(x, 0, 0), 99999);
-        Due.is("30: it stays", at(x, 0, 1), -99999);
+        Due.is("30: it stays", Stories.at(x, 0, 0), 99999);
+        Due.is("30: it stays", Stories.at(x, 0, 1), -99999);
         Due.is("30: NO NUMBER", x.mark(0, 1, NoonVows.NONE), 1);
-        Due.is("36: NO NUMBER", at(x, 0, 1), NoonVows.KIND);
+        Due.is("36: NO NUMBER", Stories.at(x, 0, 1), NoonVows.KIND);
     }
 
     private static NoonVows three() {
@@ -99,16 +86,16 @@ public final class SheetsAndSlotsTest {
         Due.is("31: sheet", x.pour(4), NoonVows.BAD);
         Due.is("31: sheet", x.pour(-1), NoonVows.BAD);
         Due.is("31: NOTHING", x.pour(0), NoonVows.NOTHING);
-        row(x, 0, 1, 50, NoonVows.NONE, 200, 7);
+        Stories.row(x, 0, 1, 50, NoonVows.NONE, 200, 7);
         Due.is("31: only 2 is otherwise", x.pour(0), 1);
         Due.is("31: the same", x.told(0, 2), 50);
         Due.is("31: NO NUMBER", x.told(1, 2), 51);
         Due.is("31: held within", x.told(2, 2), 99);
-        row(x, 1, 0, -3);
+        Stories.row(x, 1, 0, -3);
         Due.is("31: shorts", x.pour(1), 1);
         Due.is("31: held within", x.told(0, 2), 0);
         Due.is("31: beyond the SHEET", x.told(1, 2), 51);
-        row(x, 1, 0);
+        Stories.row(x, 1, 0);
         Due.is("31: no places", x.pour(1), 0);
     }
 
@@ -117,7 +104,7 @@ public final class SheetsAndSlotsTest {
         Due.is("32: sheet", x.reads(4), NoonVows.BAD);
         Due.is("32: sheet", x.reads(-1), NoonVows.BAD);
         Due.is("32: NOTHING", x.reads(0), NoonVows.NOTHING);
-        row(x, 0, 1, 12, 14, 14);
+        Stories.row(x, 0, 1, 12, 14, 14);
         Due.is("32: all are", x.reads(0), NoonVows.NONE);
         x.mark(0, 2, 13);
         Due.is("32: the third is not", x.reads(0), 2);
@@ -128,17 +115,17 @@ public final class SheetsAndSlotsTest {
         Due.is("32: the first of two", x.reads(0), 1);
         x.mark(0, 1, NoonVows.NONE);
         Due.is("32: of numbers alone", x.reads(0), 2);
-        row(x, 0, 1, 12, 14, 14, NoonVows.NONE, 12);
+        Stories.row(x, 0, 1, 12, 14, 14, NoonVows.NONE, 12);
         Due.is("32: nobody", x.reads(0), 4);
-        row(x, 0, 0);
+        Stories.row(x, 0, 0);
         Due.is("32: no places", x.reads(0), NoonVows.NONE);
     }
 
     private static void copy() {
         NoonVows x = new NoonVows();
-        row(x, 0, 0, 1, 2, 3, 4);
-        row(x, 1, 1, 5, 6, NoonVows.NONE);
-        row(x, 2, 1, 7, 8, 9);
+        Stories.row(x, 0, 0, 1, 2, 3, 4);
+        Stories.row(x, 1, 1, 5, 6, NoonVows.NONE);
+        Stories.row(x, 2, 1, 7, 8, 9);
         Due.is("33: from", x.copy(4, 0, 0, 0, 1), NoonVows.BAD);
         Due.is("33: from", x.copy(-1, 0, 0, 0, 1), NoonVows.BAD);
         Due.is("33: to", x.copy(0, 0, 4, 0, 1), NoonVows.BAD);
@@ -155,32 +142,32 @@ public final class SheetsAndSlotsTest {
         Due.is("33: many", x.copy(1, 0, 2, 0, 4), NoonVows.INDEX);
         Due.is("33: none, behind the last", x.copy(1, 3, 2, 3, 0), 0);
         Due.is("33: none, further", x.copy(1, 4, 2, 3, 0), NoonVows.INDEX);
-        Due.is("33: refused, it stays", at(x, 2, 2), 9);
+        Due.is("33: refused, it stays", Stories.at(x, 2, 2), 9);
         Due.is("33: two", x.copy(1, 1, 2, 0, 2), 2);
-        Due.is("33: came", at(x, 2, 0), 6);
-        Due.is("33: came", at(x, 2, 1), NoonVows.KIND);
-        Due.is("33: stays", at(x, 2, 2), 9);
-        Due.is("33: stays there", at(x, 1, 1), 6);
+        Due.is("33: came", Stories.at(x, 2, 0), 6);
+        Due.is("33: came", Stories.at(x, 2, 1), NoonVows.KIND);
+        Due.is("33: stays", Stories.at(x, 2, 2), 9);
+        Due.is("33: stays there", Stories.at(x, 1, 1), 6);
     }
 
     private static void copyWithin() {
         NoonVows x = new NoonVows();
-        row(x, 0, 0, 1, 2, 3, 4);
+        Stories.row(x, 0, 0, 1, 2, 3, 4);
         Due.is("33: the same", x.copy(0, 0, 0, 1, 3), 3);
         int[] up = {1, 1, 2, 3};
         for (int k = 0; k < 4; k++) {
-            Due.is("33: as they were", at(x, 0, k), up[k]);
+            Due.is("33: as they were", Stories.at(x, 0, k), up[k]);
         }
         Due.is("33: the same", x.copy(0, 2, 0, 0, 2), 2);
         int[] down = {2, 3, 2, 3};
         for (int k = 0; k < 4; k++) {
-            Due.is("33: as they were", at(x, 0, k), down[k]);
+            Due.is("33: as they were", Stories.at(x, 0, k), down[k]);
         }
     }
 
     private static void lay() {
         NoonVows x = three();
-        row(x, 0, 0, 1, 2);
+        Stories.row(x, 0, 0, 1, 2);
         Due.is("34: slot", x.lay(5, 0, 0), NoonVows.BAD);
         Due.is("34: slot", x.lay(-1, 0, 0), NoonVows.BAD);
         Due.is("34: thing", x.lay(0, 4, 0), NoonVows.BAD);
@@ -232,7 +219,7 @@ public final class SheetsAndSlotsTest {
 
     private static void item() {
         NoonVows x = three();
-        row(x, 0, 1, 5, NoonVows.NONE);
+        Stories.row(x, 0, 1, 5, NoonVows.NONE);
         x.lay(0, 2, 0);
         x.lay(1, 1, 0);
         x.lay(2, 3, 0);

@@ -253,8 +253,11 @@ public final class TextsTest {
         String[] pieces = {"f", "n", "1", "23", "(", "(", "!", "!", ")", "|", "&", "<", "=", "+", "*", "/", " ", "k"};
         Random lot = new Random(11);
         NoonVows x = new NoonVows();
-        x.keep();
         for (int k = 0; k < 60000 && !Due.anyWrong(); k++) {
+            if (k % 40 == 0) {
+                x = new NoonVows();
+                x.keep();
+            }
             StringBuilder tape = new StringBuilder("keep ");
             int many = lot.nextInt(60);
             boolean wantsPiece = true;
